@@ -118,26 +118,26 @@ public final class GrantNet {
         arriveAll();
         fabric.fillLinks();
         for (int h = 0; h < HOSTS; h++) {
-            work(h);
+            hosts[h].workAsReceiver(clock);
+            hosts[h].workAsSender(clock);
+            int packet = hosts[h].nextPacket();
+            if (packet != Packet.ABSENT) {
+                fabric.putOn(h, packet);
+            }
         }
     }
 
     private void arriveAll() {
         for (int link = 0; link < Fabric.LINKS; link++) {
             int packet = fabric.takeOff(link);
-            if (packet != Packet.ABSENT) {
-                arrive(link, packet);
+            if (packet == Packet.ABSENT) {
+                continue;
             }
-        }
-    }
-
-    private void arrive(int link, int packet) {
-        if (Fabric.endsAtHost(link)) {
-            takeIn(packet);
-        } else if (Fabric.endsAtSpine(link)) {
-            fabric.passSpine(link, packet);
-        } else {
-            fabric.passLeaf(link, packet);
+            if (Fabric.endsAtHost(link)) {
+                takeIn(packet);
+            } else {
+                fabric.passOn(link, packet);
+            }
         }
     }
 
@@ -150,15 +150,6 @@ public final class GrantNet {
             hosts[found.to].takeData(found, Packet.countOf(packet), clock);
         } else {
             found.sending.takeAnswer(Packet.kindOf(packet), Packet.countOf(packet), clock);
-        }
-    }
-
-    private void work(int h) {
-        hosts[h].workAsReceiver(clock);
-        hosts[h].workAsSender(clock);
-        int packet = hosts[h].nextPacket();
-        if (packet != Packet.ABSENT) {
-            fabric.putOn(h, packet);
         }
     }
 
@@ -299,7 +290,7 @@ public final class GrantNet {
             return isFromLeaf(link) && portOfLeaf(link) < HOSTS_OF_LEAF;
         }
 
-        static boolean endsAtSpine(int link) {
+        private static boolean endsAtSpine(int link) {
             return isFromLeaf(link) && portOfLeaf(link) >= HOSTS_OF_LEAF;
         }
 
@@ -355,7 +346,16 @@ public final class GrantNet {
             }
         }
 
-        void passLeaf(int link, int packet) {
+        /** Through the switch at the end of a link. */
+        void passOn(int link, int packet) {
+            if (endsAtSpine(link)) {
+                passSpine(link, packet);
+            } else {
+                passLeaf(link, packet);
+            }
+        }
+
+        private void passLeaf(int link, int packet) {
             int leaf = leafAtEnd(link);
             int goal = Packet.goalOf(packet);
             if (leafOfHost(goal) == leaf) {
@@ -380,7 +380,7 @@ public final class GrantNet {
             return choice;
         }
 
-        void passSpine(int link, int packet) {
+        private void passSpine(int link, int packet) {
             int s = portOfLeaf(link) - HOSTS_OF_LEAF;
             if (spineIsOn[s]) {
                 enqueue(linkFromSpine(s, leafOfHost(Packet.goalOf(packet))), packet);
