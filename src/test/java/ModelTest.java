@@ -3,8 +3,10 @@ import java.util.Random;
 /** Runs of calls drawn from fixed seeds, on GrantNet and on Model: every answer must be the same. */
 final class ModelTest {
     private static final Check CHECK = new Check("ModelTest");
-    private static final int RUNS = 600;
-    private static final int CALLS = 150;
+    private static final int RUNS = 1500;
+    /** An object is used for at most 512 calls: so many are for what happens, the others are questions at the end. */
+    private static final int CALLS = 512;
+    private static final int CALLS_OF_PLAY = 360;
     private static final String[] NAMES = {
         "sent", "received", "in", "finished", "chosen", "host", "queue", "packet", "total"};
     private static final int SENT = 0;
@@ -15,7 +17,9 @@ final class ModelTest {
     private static final int HOST = 5;
     private static final int QUEUE = 6;
     private static final int PACKET = 7;
-    private static final int TOTAL = 8;
+    /** The last argument of each kind of question that is not refused; a draw may go one beyond it, or to -1. */
+    private static final int[] LAST_A = {47, 47, 47, 7, 7, 7, 23, 23, 2};
+    private static final int[] LAST_B = {7, 6, 59, 64, 2, 5, 3, 3, 0};
 
     private final Random random;
     private final String name;
@@ -27,6 +31,7 @@ final class ModelTest {
     private final int changes;
     private final int longest;
     private final int pace;
+    private int calls = 0;
     private int wrong = 0;
 
     private ModelTest(int seed) {
@@ -59,7 +64,7 @@ final class ModelTest {
         for (int i = 0; i < early; i++) {
             begin();
         }
-        for (int i = 0; i < CALLS && wrong == 0; i++) {
+        while (calls < CALLS_OF_PLAY && wrong == 0) {
             int draw = random.nextInt(20);
             if (draw < 3) {
                 begin();
@@ -70,12 +75,16 @@ final class ModelTest {
             } else {
                 move();
             }
-            compare();
+            ask();
+        }
+        while (calls < CALLS && wrong == 0) {
+            ask();
         }
         CHECK.due(name + "wrong answers", wrong, 0);
     }
 
     private void same(String call, int got, int want) {
+        calls++;
         if (got != want && wrong++ == 0) {
             System.out.println(name + call + " answered " + got + ", the model " + want + ", clock " + model.clock);
         }
@@ -122,34 +131,23 @@ final class ModelTest {
         }
     }
 
-    private void compare() {
-        compareAll(SENT, -1, 48, -1, 8);
-        compareAll(RECEIVED, -1, 48, -1, 7);
-        int m = random.nextInt(50) - 1;
-        compareAll(IN, m, m, -1, 65);
-        compareAll(FINISHED, -1, 8, -1, 66);
-        compareAll(CHOSEN, -1, 8, -1, 4);
-        compareAll(HOST, -1, 8, -1, 6);
-        compareAll(QUEUE, -1, 24, -1, 4);
-        compareAll(PACKET, -1, 24, -1, 4);
-        compareAll(TOTAL, -1, 3, 0, 0);
-    }
-
-    private void compareAll(int method, int firstA, int lastA, int firstB, int lastB) {
-        for (int a = firstA; a <= lastA; a++) {
-            for (int b = firstB; b <= lastB; b++) {
-                int got = answer(net, method, a, b);
-                int want = answer(model, method, a, b);
-                if (got != want && !isFree(method, a, b)) {
-                    same(NAMES[method] + "(" + a + ", " + b + ")", got, want);
-                }
-            }
+    private void ask() {
+        int kind = random.nextInt(NAMES.length);
+        int lastA = kind <= IN && random.nextInt(8) > 0 ? model.senders.size() - 1 : LAST_A[kind];
+        int a = draw(lastA);
+        int b = kind == IN && random.nextBoolean() ? draw(8) : draw(LAST_B[kind]);
+        if (!isFree(kind, a, b)) {
+            same(NAMES[kind] + "(" + a + ", " + b + ")", answer(net, kind, a, b), answer(model, kind, a, b));
         }
     }
 
+    private int draw(int last) {
+        return random.nextInt(30) == 0 ? random.nextInt(last + 3) - 1 : random.nextInt(Math.max(1, last + 1));
+    }
+
     /** What the count of a DONE is the document does not tell. */
-    private boolean isFree(int method, int a, int b) {
-        return method == PACKET && b == 2 && model.packet(a, 0) == Model.DONE && net.packet(a, 0) == Model.DONE;
+    private boolean isFree(int kind, int a, int b) {
+        return kind == PACKET && b == 2 && model.packet(a, 0) == Model.DONE;
     }
 
     private static int answer(GrantNet x, int method, int a, int b) {
