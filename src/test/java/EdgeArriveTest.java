@@ -9,7 +9,9 @@ final class EdgeArriveTest {
         ownHostsAreNoChoice();
         eachLeafChoosesForItself();
         justOneIsOn();
+        theOneThatIsOnIsTheLastChoice();
         noneIsOn();
+        aDropForWantOfASpineIsNoChoice();
         aSpineThatIsOff();
         eightFitIntoAQueue();
         theNinthIsDropped();
@@ -17,6 +19,7 @@ final class EdgeArriveTest {
         theNinthAheadOfASpineIsDropped();
         anotherPriorityHasItsOwnQueue();
         theSeventhFreesAPlace();
+        aFullQueueWasChosen();
         CHECK.end();
     }
 
@@ -111,6 +114,24 @@ final class EdgeArriveTest {
         }
     }
 
+    /** "the other one than the leaf chose last": that may have been the one that alone was on. */
+    private static void theOneThatIsOnIsTheLastChoice() {
+        GrantNet net = new GrantNet();
+        net.spine(1, false);
+        net.message(0, 4, 4, 0);
+        net.slot(2);
+        CHECK.due("packet 0 by spine 0, which alone is on", net.packet(12, 2), 0);
+        net.spine(1, true);
+        net.slot(1);
+        CHECK.due("packet 1 by spine 1", net.packet(13, 2), 1);
+        net.spine(0, false);
+        net.slot(1);
+        CHECK.due("packet 2 by spine 1, which alone is on", net.packet(13, 2), 2);
+        net.spine(0, true);
+        net.slot(1);
+        CHECK.due("packet 3 by spine 0", net.packet(12, 2), 3);
+    }
+
     /** "if none is on it is DROPPED": off in time, or too late for packet 0. */
     private static void noneIsOn() {
         GrantNet net = new GrantNet();
@@ -126,6 +147,21 @@ final class EdgeArriveTest {
         net.slot(1);
         CHECK.due("packet 1 goes by spine 1", net.packet(13, 2), 1);
         CHECK.due("none dropped more", net.total(0), 1);
+    }
+
+    private static void aDropForWantOfASpineIsNoChoice() {
+        GrantNet net = new GrantNet();
+        net.message(0, 4, 4, 0);
+        net.slot(2);
+        CHECK.due("packet 0 by spine 0", net.packet(12, 2), 0);
+        net.spine(0, false);
+        net.spine(1, false);
+        net.slot(1);
+        CHECK.due("packet 0 and packet 1 are dropped", net.total(0), 2);
+        net.spine(0, true);
+        net.spine(1, true);
+        net.slot(1);
+        CHECK.due("packet 2 by spine 1", net.packet(13, 2), 2);
     }
 
     /** "At a spine, if this is on, to the leaf of the host it is for, else it is DROPPED." */
@@ -235,5 +271,32 @@ final class EdgeArriveTest {
         // Two come and one goes in each slot from 2 on: seven wait in slot 8, then each slot drops one.
         waits(net, 11, 0, 1, 2, 3, 4, 5, 6, 7, 7, 7, 7, 7, 7, 6, 5);
         CHECK.due("in the slots 9 .. 13 one each was dropped", net.total(0), 5);
+    }
+
+    /**
+     * A packet that is dropped as the queue of its spine is full has been a choice of its leaf. Three come to leaf 0 in
+     * each of the slots 2 .. 16, for the spines by turns: in slot 16 the third is for spine 0, whose queue has 8.
+     */
+    private static void aFullQueueWasChosen() {
+        GrantNet net = new GrantNet();
+        for (int h = 0; h < 3; h++) {
+            for (int i = 0; i < 3; i++) {
+                net.message(h, 4 + h, 4, 0);
+            }
+            net.message(h, 4 + h, h == 0 ? 4 : 3, 0);
+        }
+        net.slot(15);
+        CHECK.due("queue for spine 0 in slot 15", net.queue(12, 1), 7);
+        CHECK.due("queue for spine 1 in slot 15", net.queue(13, 1), 7);
+        CHECK.due("none dropped", net.total(0), 0);
+        net.slot(1);
+        CHECK.due("one dropped in slot 16", net.total(0), 1);
+        CHECK.due("queue for spine 0 in slot 16", net.queue(12, 1), 7);
+        CHECK.due("queue for spine 1 in slot 16", net.queue(13, 1), 7);
+        // In slot 17 one more comes, from host 0.
+        net.slot(1);
+        CHECK.due("it is for spine 1", net.queue(13, 1), 7);
+        CHECK.due("not for spine 0", net.queue(12, 1), 6);
+        CHECK.due("none dropped more", net.total(0), 1);
     }
 }

@@ -9,6 +9,7 @@ final class EdgeDueTest {
     public static void main(String[] args) {
         twentyFourFit();
         theTwentyFifthIsNotSent();
+        aGrantThatFindsNoRoom();
         dueGoesAheadOfData();
         CHECK.end();
     }
@@ -66,6 +67,62 @@ final class EdgeDueTest {
         CHECK.due("not sent", play(36, -1, 53), 1);
         CHECK.due("not sent", play(38, -1, 80) > 10, true);
         CHECK.due("not sent", play(36, 32, 80) > 10, true);
+    }
+
+    /**
+     * 36 messages of 60 packets to host 7, from four hosts by turns; packet 0 of message n comes in slot 3 + n, what
+     * follows it is lost, and so is each answer. ASKs are due as above: the row is full from slot 53 on.
+     */
+    private static GrantNet crowdThatAsks() {
+        GrantNet net = new GrantNet();
+        int[] hosts = {4, 5, 6, 0};
+        for (int link : new int[] {14, 15, 16, 8}) {
+            net.lose(link, 100);
+        }
+        for (int slot = 1; slot <= 36; slot++) {
+            int near = slot - 1;
+            // From host 0 it takes two slots more.
+            int far = slot + 1;
+            if (near % 4 != 3) {
+                net.message(hosts[near % 4], RECEIVER, 60, 0);
+            }
+            if (far % 4 == 3 && far < 36) {
+                net.message(0, RECEIVER, 60, 0);
+            }
+            net.slot(1);
+            if (near % 4 != 3) {
+                net.lose(hosts[near % 4], 3);
+            }
+            if (far % 4 == 3 && far < 36) {
+                net.lose(0, 3);
+            }
+        }
+        net.slot(2);
+        for (int h : hosts) {
+            net.lose(h, 100);
+        }
+        return net;
+    }
+
+    /** "GRANTED is the TARGET, and a GRANT is due": GRANTED is so too if the GRANT is one that is not sent. */
+    private static void aGrantThatFindsNoRoom() {
+        GrantNet net = crowdThatAsks();
+        net.slot(11);
+        net.message(1, RECEIVER, 5, 0);
+        net.slot(1);
+        net.lose(1, 100);
+        CHECK.due("due in slot 50", net.host(RECEIVER, 1), 18);
+        net.slot(3);
+        CHECK.due("due in slot 53", net.host(RECEIVER, 1), 23);
+        CHECK.due("not known in slot 53", net.received(36, 0), 0);
+        net.slot(1);
+        CHECK.due("chosen in slot 54", net.chosen(RECEIVER, 0), 36);
+        CHECK.due("granted", net.received(36, 3), 5);
+        CHECK.due("due in slot 54", net.host(RECEIVER, 1), 23);
+        for (int i = 0; i < 40; i++) {
+            CHECK.due("no GRANT in slot " + (54 + i), net.packet(RECEIVER, 0), 2);
+            net.slot(1);
+        }
     }
 
     /** "the first of the row of what is due goes, if there is one. Else DATA". */

@@ -6,6 +6,7 @@ final class EdgeFillTest {
         theFirstQueueThatHasAny();
         theFirstOfAQueue();
         answersWaitToo();
+        linksFromAndToASpineThatIsOff();
         noneToLose();
         oneToLose();
         aHundredToLose();
@@ -78,6 +79,32 @@ final class EdgeFillTest {
         CHECK.due("it goes", net.packet(8, 1), 0);
         CHECK.due("none waits", net.queue(8, 0), 0);
         CHECK.due("one is under way", net.total(2), 1);
+    }
+
+    /** "(but those from a spine that is off)": those to it get packets, which are dropped there. */
+    private static void linksFromAndToASpineThatIsOff() {
+        GrantNet net = new GrantNet();
+        net.spine(1, false);
+        for (int h = 0; h < 3; h++) {
+            net.message(h, 4, 4, 0);
+        }
+        net.slot(3);
+        CHECK.due("four wait for link 12", net.queue(12, 1), 4);
+        CHECK.due("one is on link 21", net.packet(21, 0), 0);
+        net.spine(0, false);
+        net.slot(1);
+        CHECK.due("three wait for link 12", net.queue(12, 1), 3);
+        CHECK.due("one is on link 12", net.packet(12, 0), 0);
+        CHECK.due("three are dropped at the leaf, one at the spine", net.total(0), 4);
+        CHECK.due("none is on link 21", net.packet(21, 0), -1);
+        net.slot(1);
+        CHECK.due("two wait for link 12", net.queue(12, 1), 2);
+        CHECK.due("three and one more are dropped", net.total(0), 8);
+        net.spine(0, true);
+        net.slot(1);
+        CHECK.due("one waits for link 12", net.queue(12, 1), 1);
+        CHECK.due("one is on link 21 again", net.packet(21, 0), 0);
+        CHECK.due("none is dropped more", net.total(0), 8);
     }
 
     private static GrantNet fourFromHostZero() {

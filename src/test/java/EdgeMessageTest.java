@@ -79,7 +79,7 @@ final class EdgeMessageTest {
         CHECK.due("the 49th", net.message(5, 2, 1, 0), -1);
         net.slot(100);
         CHECK.due("all are finished", net.host(2, 5), 48);
-        CHECK.due("all went once, ahead of any try", net.host(5, 4), 48 + triesWithin(40, 48));
+        CHECK.due("sent: 48 and the tries of slot 40", net.host(5, 4), 48 + triesWithin(40, 48));
         for (int m = 0; m < 48; m++) {
             CHECK.due("message " + m + " is delivered", net.sent(m, 0), 1);
         }

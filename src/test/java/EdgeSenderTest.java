@@ -18,6 +18,7 @@ final class EdgeSenderTest {
         aDoneInTheLastSlot();
         aDoneForAFailedOne();
         aGrantAndAnAskForAFailedOne();
+        aFailedOneSendsNoMore();
         CHECK.end();
     }
 
@@ -256,6 +257,25 @@ final class EdgeSenderTest {
         net.slot(1);
         sent(net, 0, "in slot 258, with the ASK", 2, 4, 4, 6, 0, 6, 3, 240);
         CHECK.due("nothing goes for it", net.packet(0, 0), -1);
+    }
+
+    /** "DATA of an OPEN message": the fifth try is kept back until slot 240, in which the message fails. */
+    private static void aFailedOneSendsNoMore() {
+        GrantNet net = new GrantNet();
+        net.message(0, 1, 10, 0);
+        net.lose(0, 8);
+        net.slot(199);
+        // 41 packets, in the slots 200 .. 240.
+        beginShorterOnes(net, 4, 4, 4, 4, 4);
+        net.slot(16);
+        beginShorterOnes(net, 4, 4, 4, 4, 4, 1);
+        net.slot(25);
+        CHECK.due("another one goes in slot 240", net.packet(0, 1) > 0, true);
+        CHECK.due("failed", net.sent(0, 0), 2);
+        net.slot(1);
+        CHECK.due("nothing goes in slot 241", net.packet(0, 0), -1);
+        net.slot(10);
+        CHECK.due("nor later on", net.host(0, 4), 8 + 41);
     }
 
     private static void beginShorterOnes(GrantNet net, int... lengths) {
